@@ -43,9 +43,6 @@ public final class ContextMix {
         if (ended || writer.history.begun()) {
             return STATE;
         }
-        if (predictors.size >= MOST_PREDICTORS) {
-            return FULL;
-        }
         int number = predictors.add(kind, n);
         // Both sides stand at the beginning of their first byte, which the new predictor has to know too.
         writer.beginByte();
@@ -332,7 +329,7 @@ public final class ContextMix {
         private static final int LATEST = 0, WORD = 1, COLUMN = 2, APART = 3, MATCH = 4;
 
         private final int[] kinds = new int[MOST_PREDICTORS];
-        private final int[] lengths = new int[MOST_PREDICTORS];
+        private final int[] ns = new int[MOST_PREDICTORS];
         private final boolean[] offs = new boolean[MOST_PREDICTORS];
         private int size;
 
@@ -351,12 +348,13 @@ public final class ContextMix {
             return i >= 0 && i < size;
         }
 
+        /** The number of the new one, or FULL. */
         int add(int kind, int n) {
             if (size >= MOST_PREDICTORS) {
                 return FULL;
             }
             kinds[size] = kind;
-            lengths[size] = n;
+            ns[size] = n;
             size++;
             return size - 1;
         }
@@ -389,12 +387,15 @@ public final class ContextMix {
             return size > 0 || bitsGoing > 0;
         }
 
+        /** The byte at a place of H; one before all is 0. */
         int byteAt(int place) {
             return place >= 0 && place < size ? bytes[place] : 0;
         }
 
+        /** The byte so many steps before the one that is going: 1 is the latest. */
         int back(int steps) {
-            return byteAt(size - steps);
+            int place = size - steps;
+            return place >= 0 && place < size ? bytes[place] : 0;
         }
 
         /** Whether a byte went with this bit. */
@@ -707,7 +708,7 @@ public final class ContextMix {
         void beginByte() {
             for (int i = 0; i < predictors.size; i++) {
                 int kind = predictors.kinds[i];
-                int n = predictors.lengths[i];
+                int n = predictors.ns[i];
                 if (kind == Predictors.MATCH) {
                     matches[i].follow(history);
                     matches[i].find(history, n);
