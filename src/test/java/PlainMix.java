@@ -6,7 +6,7 @@ import java.util.Map;
 /**
  * The document a second time, sentence by sentence and without any thrift: tables are maps that hold only what
  * has changed, the bits of a byte are a text, every CONTEXT is worked out anew for every bit. Tests compare
- * ContextMix with it; it shares no line with it.
+ * ContextMix with it. It is by the same hand: where the document leaves room, both read it alike.
  */
 final class PlainMix {
     static final int THROWS = Integer.MIN_VALUE;
