@@ -22,9 +22,17 @@ final class Due {
         is(what, so ? 1 : 0, 1);
     }
 
+    /** Whether anything was asked, and all of it answered as due. */
+    boolean allAsDue() {
+        if (asked == 0) {
+            System.out.println(name + ": asked nothing");
+        }
+        return asked != 0 && wrong == 0;
+    }
+
     void end() {
         System.out.println(name + ": " + asked + " answers, " + wrong + " not as due");
-        if (wrong != 0 || asked == 0) {
+        if (!allAsDue()) {
             System.exit(1);
         }
     }
