@@ -567,7 +567,7 @@ public final class EdgesOfTermsTest {
 
     // 3 MIXING: "bound to - 2,047 .. 2,047 before".
 
-    /** Behind bytes 1 and 0 in turn, a surprise behind byte 1, and a 1 again: sure of a 0 in the first bit behind it. */
+    /** Two bytes in turn, a surprise behind the other, then the one: as sure of the first bit behind it as before. */
     private static ContextMix sureButOnce(int one, int other, int surprise) {
         ContextMix x = Runs.withSame(12, 8, 1);
         for (int k = 0; k < 100; k++) {

@@ -157,7 +157,9 @@ public final class ModelTest {
                 is("weight(" + side + ", " + mixer + ", " + set + ", " + i + ")", mix.weight(side, mixer, set, i),
                     plain.weight(side, mixer, set, i));
                 break;
-            case 3: is("slot(" + side + ", " + slot + ")", slotOrThrows(side, slot), plain.slot(side, slot)); break;
+            case 3:
+                is("slot(" + side + ", " + slot + ")", Runs.slotOrThrows(mix, side, slot), plain.slot(side, slot));
+                break;
             case 4: is("seen(" + side + ", " + slot + ")", mix.seen(side, slot), plain.seen(side, slot)); break;
             case 5:
                 is("cell(" + side + ", " + set + ", " + j + ")", mix.cell(side, set, j), plain.cell(side, set, j));
@@ -192,14 +194,6 @@ public final class ModelTest {
         }
         for (int i = 0; i < 8; i++) {
             is("count at the end", mix.count(i), plain.count(i));
-        }
-    }
-
-    private int slotOrThrows(int side, int i) {
-        try {
-            return mix.slot(side, i);
-        } catch (ArrayIndexOutOfBoundsException e) {
-            return PlainMix.THROWS;
         }
     }
 
