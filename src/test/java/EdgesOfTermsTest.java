@@ -660,6 +660,16 @@ public final class EdgesOfTermsTest {
         due.is("C(1, 0)", x.cell(0, 1, 0), 0);
     }
 
+    static void term3_theVeryLastCellLearns(Due due) {
+        ContextMix x = Runs.withSame(12, 8, 0);
+        Runs.writeSame(x, 255, 100);
+        due.is("C(255, 32) at first", x.cell(0, 255, 32), 65520 - 65536);
+        int before = x.cell(0, 255, 31);
+        x.octet(254);
+        due.is("C(255, 32) fell by 65,520 / 128", x.cell(0, 255, 32), 65520 - 512 - 65536);
+        due.is("C(255, 31) did not", x.cell(0, 255, 31), before);
+    }
+
     static void term3_aCellFallsToZero(Due due) {
         ContextMix x = Runs.withSame(12, 3, 0);
         int least = 32;
