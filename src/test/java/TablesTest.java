@@ -128,4 +128,42 @@ public final class TablesTest {
         x.clear();
         due.is("both begin anew", x.equal(), 1);
     }
+
+    /** "a reader takes back what a writer wrote, and has the same tables behind each bit". */
+    static void promise20_theReaderFollowsTheWriter(Due due) {
+        int[] predictors = {0, 1, 0, 2, 1, 0, 2, 4, 3, 5, 4, 3};
+        String text = "each tells what each tells";
+        ContextMix x = Runs.with(7, predictors);
+        ContextMix writes = Runs.with(7, predictors);
+        Runs.write(x, text);
+        x.end();
+        for (int k = 0; k <= text.length(); k++) {
+            sameSide(due, "behind " + k + " bytes", x, writes);
+            if (k < text.length()) {
+                due.is("get() of byte " + k, x.get(), text.charAt(k));
+                writes.octet(text.charAt(k));
+            }
+        }
+    }
+
+    /** Side 1 of the one has what side 0 of the other has. */
+    private static void sameSide(Due due, String what, ContextMix reads, ContextMix writes) {
+        due.is("chance " + what, reads.chance(1), writes.chance(0));
+        for (int i = 0; i < writes.count(0); i++) {
+            due.is("input " + i + " " + what, reads.input(1, i), writes.input(0, i));
+        }
+        for (int i = 0; i < writes.count(5); i++) {
+            due.is("slot " + i + " " + what, reads.slot(1, i), writes.slot(0, i));
+            due.is("seen " + i + " " + what, reads.seen(1, i), writes.seen(0, i));
+        }
+        for (int set = 0; set < 256; set++) {
+            for (int i = 0; i <= writes.count(0); i++) {
+                due.is("by node " + what, reads.weight(1, 0, set, i), writes.weight(0, 0, set, i));
+                due.is("by latest byte " + what, reads.weight(1, 1, set, i), writes.weight(0, 1, set, i));
+            }
+            for (int j = 0; j <= 32; j++) {
+                due.is("cell " + what, reads.cell(1, set, j), writes.cell(0, set, j));
+            }
+        }
+    }
 }
